@@ -195,6 +195,10 @@ public final class PromisesTest {
         dueFault("grant 1 of 3", NONE);
         dueFault("grant 1 from 10", 13);
         dueFault("grant 1 to 10", 11);
+        dueFault("grant 1 to 9", NONE);
+        dueFault("guild 1 beside 2 from 0 to 9", NONE);
+        dueFault("guild 1 beside", 14);
+        dueFault("guild 1", 7);
         dueFault("grant 1 do 1 do 2", 13);
         dueFault("grant 1 of 1 of 2", 13);
         dueFault("grant 1 of 1 do 2", 13);
@@ -788,6 +792,14 @@ public final class PromisesTest {
         due("sly(-1, 1, 0)", x.sly(-1, 1, 0), UNKNOWN);
         due("fewest(0, 0) as it was", x.fewest(0, 0), 2);
         due("the last step's code", lastSly(), 20 * 7 + 10 + 9);
+        // from none to all six
+        x = under("guild 0 may do 0;guild 1 may do 1;guild 2 may do 2;guild 3 may do 3;guild 4 may do 4;guild 5 may do 5 to 3");
+        for (int verb = 0; verb < 6; verb++) {
+            x.step(0, work(verb, 0, 5), NONE);
+        }
+        due("sly(0, 1, 0)", x.sly(0, 1, 0), NONE);
+        due("sly(0, 2, 0)", x.sly(0, 2, 0), 20 * 5 + 3);
+        due("sly(0, 2, 1)", x.sly(0, 2, 1), 6);
     }
 
     private static int lastSly() {
@@ -914,6 +926,11 @@ public final class PromisesTest {
         due("right(16)", x.right(16), UNKNOWN);
         due("right(HIGH)", x.right(HIGH), UNKNOWN);
         due("right(LOW)", x.right(LOW), UNKNOWN);
+        WhoseWork y = new WhoseWork();
+        for (int i = 0; i < 16; i++) {
+            y.seize(i % 6, i, 0);
+        }
+        due("right(-1), all sixteen being right", y.right(-1), NONE);
     }
 
     private static void yearAndCount() {
