@@ -276,7 +276,11 @@ public final class WhoseWork {
         if (isNoSet(set) || i < 0 || isOff(what, 0, 1)) {
             return OUTSIDE;
         }
-        int guild = maker.cheapestGuild(things[thing], set, i);
+        int least = maker.reckon(things[thing], set, COST);
+        if (least == NEVER || i >= things[thing].size) {
+            return NONE;
+        }
+        int guild = maker.cheapestGuild(things[thing], set, i, least);
         if (guild == NONE || what == 0) {
             return guild;
         }
@@ -586,10 +590,10 @@ public final class WhoseWork {
                 return END;
             }
             int sign = text.bytes[place];
-            if (!isOff(sign, 'a', 'z')) {
+            if (sign >= 'a' && sign <= 'z') {
                 return WORD;
             }
-            return isOff(sign, '0', '9') ? OTHER : NUMBER;
+            return sign >= '0' && sign <= '9' ? NUMBER : OTHER;
         }
     }
 
@@ -880,16 +884,12 @@ public final class WhoseWork {
             return sets;
         }
 
-        private long setsForStep(Thing thing, int step, int counting) {
-            return setsForWork(thing.workAt(step, 0), counting) | setsForWork(thing.workAt(step, 1), counting);
-        }
-
         /** Those sets of a family that can make a thing but for one step (NONE: whole). */
         private long setsForThing(Thing thing, int left, int counting, long family) {
             long sets = family;
             for (int step = 0; step < thing.size && sets != 0; step++) {
                 if (step != left) {
-                    sets &= setsForStep(thing, step, counting);
+                    sets &= setsForWork(thing.workAt(step, 0), counting) | setsForWork(thing.workAt(step, 1), counting);
                 }
             }
             return sets;
@@ -963,12 +963,9 @@ public final class WhoseWork {
             return hands == 0 || (hands & ~set) != 0 ? NEVER : tariff.ofWork(guild, work, what);
         }
 
-        /** Whose step i is in the first of the cheapest ways of a set; NONE. */
-        int cheapestGuild(Thing thing, int set, int i) {
-            int due = reckon(thing, set, COST);
-            if (due == NEVER || i >= thing.size) {
-                return NONE;
-            }
+        /** Whose step i is in the first of the cheapest ways of a set, of which reckon has just told what it asks. */
+        int cheapestGuild(Thing thing, int set, int i, int least) {
+            int due = least;
             int guild = NONE;
             for (int step = 0; step <= i; step++) {
                 guild = firstGuildAt(step, guild, due);

@@ -5,7 +5,9 @@ import java.lang.reflect.Method;
 import java.lang.reflect.Modifier;
 import java.nio.file.Files;
 import java.nio.file.Path;
+import java.util.Map;
 import java.util.Set;
+import java.util.TreeMap;
 import java.util.TreeSet;
 import java.util.regex.Matcher;
 import java.util.regex.Pattern;
@@ -110,6 +112,42 @@ public final class FaceTest {
             due(library.contains(calls.group()), calls.group() + " is in the library that the rules leave");
         }
         longMethods(source);
+        deepCalls(code);
+    }
+
+    /** Which methods' names stand in which methods; the library's are one call more. */
+    private static void deepCalls(String code) {
+        Map<String, Set<String>> calls = new TreeMap<>();
+        String in = "";
+        for (String line : code.split("\n")) {
+            Matcher head = Pattern.compile("^(?: {4}| {8})(?! )[\\w\\[\\] ]*?\\b(\\w+)\\([^()]*\\) \\{$").matcher(line);
+            if (head.find()) {
+                in = head.group(1);
+                calls.put(in, new TreeSet<>());
+            } else if (!in.isEmpty()) {
+                Matcher called = Pattern.compile("\\b(?<!new )((?:Integer|Math|Arrays|System)\\.)?(\\w+)\\(").matcher(line);
+                while (called.find()) {
+                    calls.get(in).add(called.group(1) == null ? called.group(2) : "library");
+                }
+            }
+        }
+        due(calls.size() > METHODS.size() && calls.containsKey("fault"), "the methods are found, " + calls.keySet());
+        for (String method : calls.keySet()) {
+            int depth = depthOf(method, calls, 0);
+            due(depth <= 8, "calls at most eight deep: " + method + " goes " + depth);
+        }
+    }
+
+    private static int depthOf(String method, Map<String, Set<String>> calls, int above) {
+        int deepest = 0;
+        if (above < 20) {
+            for (String called : calls.getOrDefault(method, Set.of())) {
+                if (calls.containsKey(called) || called.equals("library")) {
+                    deepest = Math.max(deepest, depthOf(called, calls, above + 1));
+                }
+            }
+        }
+        return 1 + deepest;
     }
 
     private static void longMethods(String source) {
