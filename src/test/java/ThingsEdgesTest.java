@@ -31,6 +31,7 @@ public final class ThingsEdgesTest {
         wayRefused();
         waySteps();
         wayFirstOfSeveral();
+        longAheadOfShort();
         aloneOnes();
         slyRefused();
         slyOff();
@@ -582,6 +583,32 @@ public final class ThingsEdgesTest {
         }
     }
 
+    private static void longAheadOfShort() {
+        sheet.sentence("a row of STEPS, 8 at most: what a longer one asks is nothing to a shorter one");
+        for (int many = 0; many <= 8; many++) {
+            WhoseWork x = Sheet.under("guild 0 may do 0;guild 1 may do 1;guild 2 may all");
+            for (int i = 0; i < 8; i++) {
+                steps(x, 0, at(i % 2));
+                if (i < many) {
+                    steps(x, 1, at(0));
+                }
+            }
+            x.carry(99);
+            x.price(2, 0, 80);
+            x.price(2, 1, 80);
+            x.days(2, 9);
+            sheet.due("best(0, 63, 0)", x.best(0, 63, 0), 640);
+            sheet.due("best(1, 63, 0) of " + many, x.best(1, 63, 0), many);
+            sheet.due("best(0, 63, 1)", x.best(0, 63, 1), 15);
+            sheet.due("best(1, 63, 1) of " + many, x.best(1, 63, 1), many);
+            sheet.due("way(0, 63, 7, 0)", x.way(0, 63, 7, 0), 2);
+            sheet.due("way(1, 63, the last, 0) of " + many, x.way(1, 63, Math.max(0, many - 1), 0), many == 0 ? NONE : 0);
+            sheet.due("best(0, 63, 0) again", x.best(0, 63, 0), 640);
+            x.clear(0);
+            sheet.due("best(0, 63, 0) of one that is cleared", x.best(0, 63, 0), 0);
+        }
+    }
+
     // ---- alone
 
     private static void aloneOnes() {
@@ -829,6 +856,12 @@ public final class ThingsEdgesTest {
         x = Sheet.under("guild 0 not do 3;guild 0 may do 1;guild 2 only do 4;guild 0 not do 1");
         steps(x, 0, at(1));
         sheet.due("of those within", x.struck(0, 1), 8);
+        // those that the other work of a step is within, too
+        x = Sheet.under("guild 0 may do 1;guild 2 not do 2;guild 0 not do 1");
+        x.step(0, at(0), at(1));
+        x.step(1, at(1), at(0));
+        sheet.due("of those that the other work is within", x.struck(0, 1), 4);
+        sheet.due("of those that the first work is within", x.struck(1, 1), 4);
         // fewer guilds ask for more struck out
         x = Sheet.under("guild 0 may all;guild 0 not do 0;guild 1 may do 0;guild 0 not do 1;guild 2 may do 1");
         steps(x, 0, at(0), at(1), at(2));

@@ -5,10 +5,6 @@ final class Sheet {
     static final int NONE = -1, UNKNOWN = -2, OUTSIDE = -3, NOT = -4, FULL = -5;
     static final int LOW = Integer.MIN_VALUE, HIGH = Integer.MAX_VALUE;
 
-    /** Numbers that are below, or above, whatever the document counts. */
-    static final int[] FAR_BELOW = {-2, -3, -64, -240, LOW + 1, LOW};
-    static final int[] FAR_ABOVE = {241, 256, 1 << 16, HIGH - 1, HIGH};
-
     private String sentence = "";
     private int asked = 0;
     private int wrong = 0;
