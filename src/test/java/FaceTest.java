@@ -60,9 +60,15 @@ public final class FaceTest {
         for (Field f : c.getDeclaredFields()) {
             if (!Modifier.isPrivate(f.getModifiers())) {
                 constants.add(f.getName());
+                int open = Modifier.PUBLIC | Modifier.STATIC | Modifier.FINAL;
+                due(f.getModifiers() == open && f.getType() == int.class, f + " is a public constant of int");
             }
         }
         due(constants.equals(new TreeSet<>(Set.of("NONE", "UNKNOWN", "OUTSIDE", "NOT", "FULL"))), "the constants " + constants);
+        int[] values = {WhoseWork.NONE, WhoseWork.UNKNOWN, WhoseWork.OUTSIDE, WhoseWork.NOT, WhoseWork.FULL};
+        for (int i = 0; i < values.length; i++) {
+            due(values[i] == -1 - i, "the constants' values: NONE -1, UNKNOWN -2, OUTSIDE -3, NOT -4, FULL -5");
+        }
         Constructor<?>[] made = c.getDeclaredConstructors();
         due(made.length == 1 && Modifier.isPublic(made[0].getModifiers()) && made[0].getParameterCount() == 0, "the constructor");
     }
